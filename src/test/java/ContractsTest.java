@@ -19,6 +19,7 @@ public final class ContractsTest {
         arithmetic();
         meanings();
         storesAndFetches();
+        deepHeaps();
         costs();
         whatFindsSomethingChangesNoCell();
         whichRuleIsFound();
@@ -157,6 +158,7 @@ public final class ContractsTest {
         Due.is("-17 by 5, cut", computed(DIVIDE, -17, 5), -3);
         Due.is("17 by -5, cut", computed(DIVIDE, 17, -5), -3);
         Due.is("5 by 17", computed(DIVIDE, 5, 17), 0);
+        Due.is("17 by 1", computed(DIVIDE, 17, 1), 17);
         Due.is("sum wraps", computed(ADD, Long.MAX_VALUE, 1), Long.MIN_VALUE);
         Due.is("difference wraps", computed(SUBTRACT, Long.MIN_VALUE, 1), Long.MAX_VALUE);
         Due.is("product wraps", computed(MULTIPLY, 1L << 62, 6), 1L << 63);
@@ -223,6 +225,33 @@ public final class ContractsTest {
         x.run(leftover, 0, 100);
         Due.is("a run begins with nothing", x.run(taker, 4, 100), 2);
         Due.is("what lay there is gone", x.cell(taker, 0), 4);
+    }
+
+    private static void deepHeaps() {
+        EngineVersions x = new EngineVersions();
+        int high = x.contract();
+        int sum = x.contract();
+        for (int i = 1; i <= 23; i++) {
+            x.act(high, PUSH, i);
+            x.act(sum, i <= 12 ? PUSH : i % 2 == 0 ? SUBTRACT : ADD, i);
+        }
+        x.act(high, STORE, 0);
+        x.act(sum, STORE, 0);
+        Due.is("23 lie there", x.deploy(high), 0);
+        Due.is("run", x.run(high, 0, 24), 24);
+        Due.is("the top of 23", x.cell(high, 0), 23);
+        Due.is("12 lie there, then 1", x.deploy(sum), 0);
+        Due.is("run", x.run(sum, 0, 24), 24);
+        Due.is("from the top down", x.cell(sum, 0), foldedFromTheTop());
+    }
+
+    /** 12 and 11, then 10 less that, then 9 and that, and so on down to 1. */
+    private static long foldedFromTheTop() {
+        long top = 12;
+        for (int lower = 11; lower >= 1; lower--) {
+            top = lower % 2 == 1 ? lower + top : lower - top;
+        }
+        return top;
     }
 
     private static void costs() {
