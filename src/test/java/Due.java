@@ -13,11 +13,12 @@ final class Due {
     private Due() {
     }
 
-    static void is(String what, long got, long want) {
+    static boolean is(String what, long got, long want) {
         asked++;
         if (got != want) {
             tell(what + " answered " + got + ", due is " + want);
         }
+        return got == want;
     }
 
     static void same(String what, String got, String want) {

@@ -14,6 +14,7 @@ import java.util.TreeMap;
 public final class ModelTest {
     private static final int OBJECTS = 3000;
     private static final int CALLS = 512;
+    private static final int MOST_TOLD = 20;
     private static final int[] ODD = {Integer.MIN_VALUE, -1000, -3, -2, -1, 65, 101, 1001, 1024, Integer.MAX_VALUE};
     private static final long[] LONGS = {0, 1, -1, 2, -7, 3037000500L, 1L << 32, Long.MIN_VALUE, Long.MAX_VALUE};
     private static final String[] KINDS = {"edition", "price", "member", "about", "differs", "node", "build",
@@ -23,14 +24,18 @@ public final class ModelTest {
     private static final Map<String, Integer> seen = new TreeMap<>();
 
     public static void main(String[] args) {
-        for (int seed = 0; seed < OBJECTS; seed++) {
-            playOne(new Random(seed), seed);
+        int wrong = 0;
+        for (int seed = 0; seed < OBJECTS && wrong < MOST_TOLD; seed++) {
+            wrong += playOne(new Random(seed), seed) ? 0 : 1;
         }
-        everyAnswerWasSeen();
+        if (wrong == 0) {
+            everyAnswerWasSeen();
+        }
         Due.end();
     }
 
-    private static void playOne(Random random, int seed) {
+    /** Ends at the first wrong answer: those behind it would mostly follow from it. */
+    private static boolean playOne(Random random, int seed) {
         EngineVersions real = new EngineVersions();
         Model model = new Model();
         int[] odds = oddsOfKinds(random);
@@ -39,15 +44,18 @@ public final class ModelTest {
         int ahead = random.nextInt(3) == 0 ? 0 : putMembersInForce(real, model, random, seed);
         for (int i = ahead; i < CALLS; i++) {
             String kind = KINDS[pick(random, odds)];
-            callBoth(real, model, seed, kind, arguments(random, kind, wild, span, model));
+            if (!callBoth(real, model, seed, kind, arguments(random, kind, wild, span, model))) {
+                return false;
+            }
         }
+        return true;
     }
 
-    private static void callBoth(EngineVersions real, Model model, int seed, String kind, long... a) {
+    private static boolean callBoth(EngineVersions real, Model model, int seed, String kind, long... a) {
         long got = callReal(real, kind, a);
         long want = callModel(model, kind, a);
-        Due.is("seed " + seed + ": " + kind + Arrays.toString(a), got, want);
         seen.merge(kind + " " + (want < 0 && want > -20 ? want : 0), 1, Integer::sum);
+        return Due.is("seed " + seed + ": " + kind + Arrays.toString(a), got, want);
     }
 
     /** Without members in force from early on, hardly a contract that calls one would be deployed. */
