@@ -8,7 +8,7 @@ import java.nio.file.Path;
 import java.util.Set;
 import java.util.TreeSet;
 
-/** The public face of the document, no more and no less, and words that LANGUAGE.md leaves out. */
+/** The public face of the document, no more and no less, and sizes and words that LANGUAGE.md leaves out. */
 public final class FaceTest {
     private static final String[] METHODS = {
         "int edition(int)", "int price(int,int,int)", "int member(int,int,int)", "int about(int,int,int)",
@@ -24,6 +24,7 @@ public final class FaceTest {
         constants();
         members();
         classesInside();
+        sizesOf(EngineVersions.class);
         source();
         Due.end();
     }
@@ -82,6 +83,18 @@ public final class FaceTest {
         for (Class<?> type : inside) {
             Due.is(type + " is static", Modifier.isStatic(type.getModifiers()) ? 1 : 0, 1);
             Due.is(type + " is not public", Modifier.isPublic(type.getModifiers()) ? 1 : 0, 0);
+            sizesOf(type);
+        }
+    }
+
+    private static void sizesOf(Class<?> type) {
+        int fields = 0;
+        for (Field field : type.getDeclaredFields()) {
+            fields += Modifier.isStatic(field.getModifiers()) ? 0 : 1;
+        }
+        Due.is(type + " has some twenty fields", fields <= 20 ? 1 : 0, 1);
+        for (Method method : type.getDeclaredMethods()) {
+            Due.is(method + " takes at most seven", method.getParameterCount() <= 7 ? 1 : 0, 1);
         }
     }
 
